@@ -871,13 +871,15 @@ public final class StateMoves {
         private final int[] codes = new int[TEXT];
         private final int[] operands = new int[TEXT];
         private int codeLength;
-        private Build first;
-        private Build second;
-        private Move[] moves;
+        private Build first = new Build();
+        private Build second = first;
+        private Move[] moves = new Move[KINDS];
         private int moveCount;
-        private Kind oldKind;
-        private Kind newKind;
-        private Move open;
+        private Kind oldKind = nothing;
+        private Kind newKind = nothing;
+        /** The MOVE whose RULES are read, while one is move. */
+        private Move move = new Move(NONE);
+        private boolean isOpen;
         private int at;
         /** Once a piece can't stand there no more are taken: it stays the one that is at hand. */
         private boolean failed;
@@ -887,12 +889,12 @@ public final class StateMoves {
         RuleSet read(byte[] text, int length, Build from, Build to) {
             restart(from, to);
             pieces.split(text, length);
-            for (int i = 0; i <= TEXT && !failed && (open != null || kind() != END); i++) {
-                if (open == null) {
+            for (int i = 0; i <= TEXT && !failed && (isOpen || kind() != END); i++) {
+                if (!isOpen) {
                     readHead();
                 } else if (kind() == '}') {
-                    open.inherit(oldKind, newKind);
-                    open = null;
+                    move.inherit(oldKind, newKind);
+                    isOpen = false;
                     at++;
                 } else {
                     readRule();
@@ -922,7 +924,7 @@ public final class StateMoves {
             codeLength = 0;
             oldKind = nothing;
             newKind = nothing;
-            open = null;
+            isOpen = false;
             at = 0;
             failed = false;
             notedPlace = TEXT + 1;
@@ -976,14 +978,13 @@ public final class StateMoves {
                 note(place());
             }
             take(NAME);
-            Move fresh = new Move(moving ? readTarget(cls) : NONE);
-            if (moving) {
-                open = fresh;
-            } else {
+            move = new Move(moving ? readTarget(cls) : NONE);
+            isOpen = moving;
+            if (!moving) {
                 take(';');
             }
             if (isFresh) {
-                moves[cls] = fresh;
+                moves[cls] = move;
             }
             moveCount++;
         }
@@ -1007,13 +1008,13 @@ public final class StateMoves {
             int kind = kind();
             if (kind == DROP) {
                 at++;
-                if (!open.drop(oldKind.find(word()))) {
+                if (!move.drop(oldKind.find(word()))) {
                     note(place());
                 }
                 take(NAME);
             } else if (kind == KEY || kind == NAME) {
                 int slot = kind == KEY ? KEY_SLOT : newKind.find(word());
-                if (!open.claim(slot)) {
+                if (!move.claim(slot)) {
                     note(place());
                 }
                 at++;
@@ -1037,7 +1038,7 @@ public final class StateMoves {
                 if (source == NONE || oldKind.isRow(source) != isRow) {
                     note(place);
                 }
-                open.copy(slot, source);
+                move.copy(slot, source);
                 at++;
                 return;
             }
@@ -1046,7 +1047,7 @@ public final class StateMoves {
             if (isRow) {
                 note(place);
             }
-            open.work(slot, start, codeLength);
+            move.work(slot, start, codeLength);
         }
 
         /** A + or - waits for the whole of its right side, a * / % just for the next factor. */
@@ -1109,7 +1110,7 @@ public final class StateMoves {
             if (source == NONE || oldKind.isRow(source) != isPicked || oldKind.typeAt(source) >= FLOAT) {
                 note(place);
             }
-            open.mention(source);
+            move.mention(source);
             if (!isPicked) {
                 emit(PUSH_MEMBER, source);
             } else if (depth < NEST) {
@@ -1127,7 +1128,7 @@ public final class StateMoves {
             if (!oldKind.isRow(source)) {
                 note(place());
             }
-            open.mention(source);
+            move.mention(source);
             emit(PUSH_COUNT, source);
             take(NAME);
         }

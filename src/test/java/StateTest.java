@@ -58,6 +58,8 @@ public final class StateTest {
         DUE.is("BAD changes nothing", x.told(1), 2);
         DUE.is("begin(3)", x.begin(3), 2);
         DUE.is("THE STATE's BUILD", x.told(0), 3);
+        DUE.is("no KEY any more", x.key(0), 0);
+        DUE.is("no VALUE any more", x.classOf(1), StateMoves.NONE);
         DUE.is("its VALUES", x.told(1), 0);
         DUE.is("a CLASS of that BUILD", x.value(1, 0), 1);
         DUE.is("no CLASS of that BUILD", x.value(2, 1), StateMoves.BAD);

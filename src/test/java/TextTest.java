@@ -10,6 +10,7 @@ public final class TextTest {
         pieces();
         grammar();
         places();
+        longest();
         nesting();
         classNames();
         memberNames();
@@ -207,6 +208,24 @@ public final class TextTest {
         wrong("drop", 4);
         wrong("drop a", 6);
         wrong("drop a; move", 12);
+    }
+
+    private static void longest() {
+        wrong(";".repeat(700), 0);
+        wrong("move a to a{" + " ".repeat(688), 700);
+        wrong("move a to a{x=" + "1+".repeat(343), 700);
+        wrong("move a to a{x=1" + " ".repeat(685), 700);
+        String sum = "move a to a{x=" + "1+".repeat(341) + "1;}";
+        right(sum + " ", 1);
+        StateMoves x = fresh();
+        x.value(5, 0);
+        Due.rules(x, 0, 1, sum);
+        DUE.is("carry", x.carry(1), 1);
+        DUE.is("342 of 1", x.bits(5, 0, 0), 342);
+        Due.type(x, 2, "abcdefgh", "zyxwvuts:4");
+        Due.type(x, 3, "hgfedcba", "stuvwxyz:4");
+        DUE.is("NAMES of eight letters",
+                Due.rules(x, 2, 3, "move abcdefgh to hgfedcba{stuvwxyz=-zyxwvuts;drop zyxwvuts;}"), 1);
     }
 
     private static void nesting() {
