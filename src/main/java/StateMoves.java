@@ -146,13 +146,15 @@ public final class StateMoves {
     }
 
     public int rules(int from, int to) {
+        // THE TEXT is used up by every call, also by one that is BAD.
+        int length = textLength;
+        textLength = 0;
         Build first = buildAt(from);
         Build second = buildAt(to);
         if (first == null || second == null || from == to) {
             return BAD;
         }
-        RuleSet fresh = parser.read(text, textLength, first, second);
-        textLength = 0;
+        RuleSet fresh = parser.read(text, length, first, second);
         if (fresh == null) {
             return WRONG - parser.wrongPlace();
         }

@@ -228,11 +228,11 @@ final class Model {
     }
 
     int rules(int from, int to) {
+        String read = text;
+        text = "";
         if (!isBuild(from) || !isBuild(to) || from == to) {
             return BAD;
         }
-        String read = text;
-        text = "";
         try {
             Rules fresh = new Reading(read, builds.get(from), builds.get(to)).all();
             rules.put(from * 10 + to, fresh);

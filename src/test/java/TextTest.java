@@ -7,6 +7,7 @@ public final class TextTest {
         feedsBytes();
         counts();
         badBuilds();
+        usedUpText();
         pieces();
         grammar();
         places();
@@ -96,17 +97,39 @@ public final class TextTest {
     }
 
     private static void badBuilds() {
+        int[][] pairs = {{0, 0}, {7, 7}, {8, 0}, {0, 8}, {-1, 0}, {0, -1}, {9, 9}, {Integer.MIN_VALUE, Integer.MAX_VALUE}};
+        for (int[] pair : pairs) {
+            StateMoves x = fresh();
+            String call = "rules(" + pair[0] + ", " + pair[1] + ")";
+            Due.feed(x, "drop a;");
+            DUE.is("RULES that there are", x.rules(0, 1), 1);
+            DUE.is(call + " of no text", x.rules(pair[0], pair[1]), StateMoves.BAD);
+            Due.feed(x, "drop b;drop a;");
+            DUE.is(call, x.rules(pair[0], pair[1]), StateMoves.BAD);
+            DUE.is("THE TEXT is empty behind " + call, x.feed(Due.half(" ", 0), 0, 1), 1);
+            DUE.is("no RULES came", x.told(2), 1);
+            DUE.is("nothing is left of it behind " + call, x.rules(0, 1), 0);
+        }
+    }
+
+    // A text that was used up leaves room for the longest one, and nothing of it stands behind a shorter one.
+    private static void usedUpText() {
         StateMoves x = fresh();
+        for (int i = 0; i < 43; i++) {
+            x.feed(-1L, -1L, 16);
+        }
+        x.feed(-1L, -1L, 12);
+        DUE.is("700 are there", x.feed(0, 0, 1), StateMoves.FULL);
+        DUE.is("of one BUILD", x.rules(3, 3), StateMoves.BAD);
         Due.feed(x, "drop a;");
-        DUE.is("rules(0, 0)", x.rules(0, 0), StateMoves.BAD);
-        DUE.is("rules(8, 0)", x.rules(8, 0), StateMoves.BAD);
-        DUE.is("rules(0, 8)", x.rules(0, 8), StateMoves.BAD);
-        DUE.is("rules(-1, 0)", x.rules(-1, 0), StateMoves.BAD);
-        DUE.is("rules(0, -1)", x.rules(0, -1), StateMoves.BAD);
-        DUE.is("rules(9, 9)", x.rules(9, 9), StateMoves.BAD);
-        DUE.is("no RULES came", x.told(2), 0);
-        DUE.is("THE TEXT stays", x.rules(0, 1), 1);
-        DUE.is("and is empty then", x.rules(0, 1), 0);
+        DUE.is("the text behind it alone", x.rules(0, 1), 1);
+        Due.feed(x, "drop a;drop");
+        DUE.is("WRONG", x.rules(0, 1), -10 - 11);
+        DUE.is("RULES stay", x.told(2), 1);
+        DUE.is("empty behind a WRONG one", x.feed(0, 0, 1), 1);
+        DUE.is("BAD feed() changes nothing", x.feed(0, 0, 0), StateMoves.BAD);
+        DUE.is("forget() leaves THE TEXT", x.forget(0, 1) ? 1 : 0, 1);
+        DUE.is("it is still there", x.feed(0, 0, 1), 2);
     }
 
     private static void pieces() {
