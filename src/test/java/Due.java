@@ -1,8 +1,18 @@
+import java.io.IOException;
+import java.io.UncheckedIOException;
 import java.nio.charset.StandardCharsets;
+import java.nio.file.Files;
+import java.nio.file.Path;
 
 /** Counts the answers that are not the ones that are due, and tells names and texts as the class wants them. */
 final class Due {
+    private static final Path DOCUMENT = Path.of("../shared/DOC.md");
+
     private final String test;
+    private String document;
+    private String sentence = "";
+    private int sentences;
+    private int askedBefore;
     private int wrong;
     private int asked;
 
@@ -10,11 +20,56 @@ final class Due {
         this.test = test;
     }
 
+    /** What is asked from here on holds these words of the document. */
+    void sentence(String words) {
+        endSentence();
+        sentence = words;
+        sentences++;
+        askedBefore = asked;
+        if (!document().isEmpty() && !document().contains(oneLine(words))) {
+            fault("the document does not say «" + words + "»");
+        }
+    }
+
+    // A sentence that nothing was asked for is held by no test.
+    private void endSentence() {
+        if (sentences > 0 && asked == askedBefore) {
+            fault("nothing was asked for «" + sentence + "»");
+        }
+    }
+
+    private String document() {
+        if (document == null) {
+            try {
+                document = Files.exists(DOCUMENT) ? oneLine(Files.readString(DOCUMENT)) : "";
+            } catch (IOException broken) {
+                throw new UncheckedIOException(broken);
+            }
+        }
+        return document;
+    }
+
+    private static String oneLine(String text) {
+        return text.replaceAll("\\s+", " ");
+    }
+
+    private void fault(String what) {
+        wrong++;
+        System.out.println(test + ": " + what);
+    }
+
     void is(String what, long got, long want) {
         asked++;
         if (got != want) {
-            wrong++;
-            System.out.println(test + ": " + what + " answered " + got + ", due is " + want);
+            String of = sentence.isEmpty() ? "" : " (of «" + sentence + "»)";
+            fault(what + " answered " + got + ", due is " + want + of);
+        }
+    }
+
+    void same(String what, String got, String want) {
+        asked++;
+        if (!got.equals(want)) {
+            fault(what + " (of «" + sentence + "»): there is\n" + got + "due is\n" + want);
         }
     }
 
@@ -23,7 +78,9 @@ final class Due {
     }
 
     void end() {
-        System.out.println(test + ": " + asked + " answers, " + wrong + " not as due");
+        endSentence();
+        String held = sentences == 0 ? "" : sentences + " sentences, ";
+        System.out.println(test + ": " + held + asked + " answers, " + wrong + " not as due");
         if (wrong != 0 || asked == 0) {
             System.exit(1);
         }
@@ -71,5 +128,23 @@ final class Due {
             }
         }
         return cls;
+    }
+
+    /** All that THE STATE tells, a line for each VALUE; of many VALUES that takes more calls than an object has. */
+    static String picture(StateMoves x) {
+        StringBuilder told = new StringBuilder("BUILD " + x.told(0) + ", VALUES " + x.told(1) + "\n");
+        for (int i = 0; i < x.told(1); i++) {
+            long key = x.key(i);
+            told.append(key).append(" of ").append(x.classOf(key));
+            for (int member = 0; x.many(key, member) >= 0; member++) {
+                told.append(" [");
+                for (int k = 0; k < x.many(key, member); k++) {
+                    told.append(' ').append(x.bits(key, member, k));
+                }
+                told.append(" ]");
+            }
+            told.append('\n');
+        }
+        return told.toString();
     }
 }
