@@ -490,6 +490,10 @@ public final class EdgesOfCarryingTest {
         loses("move a to a{q=h;drop h;}", 6);
         loses("move a to a{a=b+c+d+e+f+g;}", 1);
         loses("move a to a{a=a;}", 6);
+        loses("move a to a{a=a*0+1;}", 6);
+        loses("move a to a{a=1;o=a;}", 6);
+        loses("move a to a{a=1;key=key+a-1;}", 6);
+        lostRowsNotTold();
         StateMoves x = new StateMoves();
         Due.type(x, 0, "a", "x:5");
         Due.type(x, 0, "b", "x:5");
@@ -501,6 +505,20 @@ public final class EdgesOfCarryingTest {
         Due.rules(x, 0, 1, "move a to c{y=x;}move b to c{}");
         x.dry(1);
         lost("not in E's of another MOVE", x, 1, 0);
+    }
+
+    private static void lostRowsNotTold() {
+        String[] rules = {"", "n=1;", "n=#r;", "n=r[0];", "key=#r;", "key=r[0];", "q=r;", "drop r;"};
+        for (int i = 0; i < rules.length; i++) {
+            StateMoves x = new StateMoves();
+            Due.type(x, 0, "a", "r:5[]");
+            Due.type(x, 1, "a", "n:5 q:5[]");
+            x.value(1, 0);
+            x.add(1, 0, 0);
+            Due.rules(x, 0, 1, "move a to a{" + rules[i] + "}");
+            DUE.is("dry with " + rules[i], x.dry(1), 1);
+            lost("a row with «" + rules[i] + "»", x, i < 2 ? 1 : 0, 0);
+        }
     }
 
     private static void lostNotGone() {

@@ -180,6 +180,9 @@ public final class EdgesOfTextTest {
         }
         wrongRule("x=-2147483648;", 3);
         wrongRule("x=1.5;", 3);
+        StateMoves x = fresh();
+        DUE.is("one of eleven digits", Due.rules(x, 0, 1, HEAD + "x=12345678901"), -10 - 14);
+        DUE.is("one of ten behind it", Due.rules(x, 0, 1, HEAD + "x=1234567890"), -10 - 24);
     }
 
     private static void noneToSixMoves() {
@@ -691,6 +694,7 @@ public final class EdgesOfTextTest {
             DUE.is("those are there", x.told(2), 1);
             DUE.is("those lead there", x.dry(1), 1);
             DUE.is("nothing is dropped", x.lost(1), 0);
+            DUE.is("a right one behind it", Due.rules(x, 0, 1, HEAD + "x=5;}"), 1);
         }
         x.carry(1);
         DUE.is("those tell", x.bits(1, 0, 0), 5);

@@ -194,6 +194,23 @@ public final class EdgesOfWorkTest {
         fails(5, "e[0]+1/0", "e[0]+y*2", "r[e[0]]/0");
         fails(2, "y+1+1/1*e[0]");
         fails(5, "y+1*e[0]", "y+e[0]");
+        againBehindRefused();
+    }
+
+    // What waited on the left as an E was REFUSED is not there any more for the next one.
+    private static void againBehindRefused() {
+        StateMoves x = new StateMoves();
+        Due.type(x, 0, "a", "x:5");
+        Due.type(x, 1, "a", "x:5");
+        x.value(7, 0);
+        Due.rules(x, 0, 1, "move a to a{x=" + "1+2*(".repeat(20) + "1+6/x" + ")".repeat(20) + ";}");
+        for (int i = 0; i < 60; i++) {
+            DUE.is("REFUSED", x.dry(1), NONE);
+        }
+        refused("by 0", x, 4, 0, 0, 0, 7, 0);
+        x.set(7, 0, 2);
+        DUE.is("carry", x.carry(1), 1);
+        DUE.is("as it is due", x.bits(7, 0, 0), (5L << 20) - 1);
     }
 
     private static StateMoves forTypes(int from, int to, boolean rows) {

@@ -21,10 +21,14 @@ public final class FaceTest {
             "long refusedKey(boolean)", "int lost(int)", "int told(int)", "long key(int)",
             "int classOf(long)", "int many(long, int)", "long bits(long, int, int)");
 
-    private static final String[] LIBRARY = {
-        "Arrays.fill", "Arrays.copyOf", "Math.min", "Math.max",
-        "Long.numberOfLeadingZeros", "Long.numberOfTrailingZeros",
-    };
+    /** Of Integer, Long and Math all functions over int and long are allowed, but for those that end in Exact. */
+    private static final Set<String> LIBRARY = Set.of(
+            "Arrays.fill", "Arrays.copyOf", "Arrays.copyOfRange", "System.arraycopy", "List.of");
+
+    private static final Set<String> IMPORTS = Set.of(
+            "java.util.Arrays", "java.util.ArrayList", "java.util.List", "java.util.Iterator");
+
+    private static final Pattern METHOD = Pattern.compile("( {4}| {8})[A-Za-z][^=;]*\\([^=;]*\\) \\{");
 
     public static void main(String[] args) throws Exception {
         constants();
@@ -71,6 +75,7 @@ public final class FaceTest {
             boolean isPrivate = Modifier.isPrivate(field.getModifiers());
             DUE.holds(field + " is private or of the face", isPrivate != constants.contains(field.getName()));
         }
+        fields(StateMoves.class);
     }
 
     private static String shape(Method method) {
@@ -87,37 +92,62 @@ public final class FaceTest {
         for (Class<?> one : inside) {
             DUE.holds(one + " is static", Modifier.isStatic(one.getModifiers()));
             DUE.holds(one + " is not public", !Modifier.isPublic(one.getModifiers()));
-            int fields = 0;
-            for (Field field : one.getDeclaredFields()) {
-                boolean isStatic = Modifier.isStatic(field.getModifiers());
-                fields += isStatic ? 0 : 1;
-                DUE.holds(field + " is final if static", !isStatic || Modifier.isFinal(field.getModifiers()));
-            }
-            DUE.holds(one + " has at most twenty fields", fields <= 20);
+            fields(one);
             for (Method method : one.getDeclaredMethods()) {
                 DUE.holds(method + " has at most seven parameters", method.getParameterCount() <= 7);
             }
         }
     }
 
+    private static void fields(Class<?> one) {
+        int fields = 0;
+        for (Field field : one.getDeclaredFields()) {
+            boolean isStatic = Modifier.isStatic(field.getModifiers());
+            fields += isStatic ? 0 : 1;
+            DUE.holds(field + " is final if static", !isStatic || Modifier.isFinal(field.getModifiers()));
+        }
+        DUE.holds(one + " has at most twenty fields", fields <= 20);
+    }
+
     private static void source(String text) {
         String code = text.replaceAll("(?s)/\\*.*?\\*/", " ").replaceAll("//[^\n]*", " ");
         String[] banned = {
-            "throw", "throws", "try", "catch", "synchronized", "assert", "package", "instanceof", "Object",
-            "hashCode", "toString", "->", "::", "Exact", "double", "float", "String", "System", "Thread",
+            "throw", "throws", "try", "catch", "synchronized", "assert", "package", "native", "volatile", "Object",
+            "Thread", "Random", "hashCode", "Throwable", "Exception",
         };
         for (String word : banned) {
-            String edge = Character.isLetter(word.charAt(0)) && !word.equals("Exact") ? "\\b" : "";
-            DUE.holds("no " + word, !Pattern.compile(edge + word + edge).matcher(code).find());
+            DUE.holds("no " + word, !Pattern.compile("\\b" + word + "\\b").matcher(code).find());
         }
+        DUE.holds("no function whose name ends in Exact", !Pattern.compile("Exact\\b").matcher(code).find());
+        DUE.holds("no method reference", !code.contains("::"));
+        DUE.holds("no lambda", !code.replaceAll("(case [^;{}]*?|default)\\s*->", " ").contains("->"));
+        DUE.holds("no static initialiser block", !Pattern.compile("static\\s*\\{").matcher(code).find());
         Matcher imports = Pattern.compile("import\\s+([^;]+);").matcher(code);
         while (imports.find()) {
-            DUE.holds("import " + imports.group(1), imports.group(1).equals("java.util.Arrays"));
+            DUE.holds("import " + imports.group(1), IMPORTS.contains(imports.group(1)));
         }
-        Matcher calls = Pattern.compile("\\b(Arrays|Math|Long|Integer|System|Character)\\.(\\w+)").matcher(code);
+        Matcher calls = Pattern.compile("\\b(Arrays|System|List|Character|String|Objects|Double|Float)\\.(\\w+)").matcher(code);
         while (calls.find()) {
-            DUE.holds("library: " + calls.group(), Set.of(LIBRARY).contains(calls.group()));
+            DUE.holds("library: " + calls.group(), LIBRARY.contains(calls.group()));
         }
         DUE.holds("characters 0 to 255 alone", text.chars().allMatch(c -> c <= 255));
+        shortMethods(text.split("\n"));
+    }
+
+    /** The methods stand in by four (of the class) or eight (of a class inside), and end so. */
+    private static void shortMethods(String[] lines) {
+        int methods = 0;
+        for (int i = 0; i < lines.length; i++) {
+            Matcher head = METHOD.matcher(lines[i]);
+            if (head.matches()) {
+                int end = i;
+                while (end < lines.length && !lines[end].equals(head.group(1) + "}")) {
+                    end++;
+                }
+                methods++;
+                DUE.holds(lines[i].trim() + " has some sixty lines at most", end - i + 1 <= 60);
+            }
+        }
+        DUE.holds("methods were found: " + methods, methods > FACE.size());
     }
 }

@@ -5,7 +5,9 @@ import java.util.Random;
 
 /** Runs of calls by chance, of fixed seeds: every answer of the class is held against the model's. */
 public final class ModelTest {
-    private static final int RUNS = 8000;
+    private static final int RUNS = 9000;
+    /** An object has 512 calls, and the longest text takes some forty of them. */
+    private static final int CALLS = 460;
     private static final String[] TYPE_NAMES = {"a", "b", "c", "pa", "pb", "longname"};
     private static final String[] MEMBER_NAMES = {"x", "y", "z", "r", "s", "f", "g", "xy", "yyyyyyyy"};
     private static final long[] SOME = {0, 1, -1, 2, 3, 7, 100, 127, 128, -128, -129, 32767, 65535, 65536, 1L << 24,
@@ -80,7 +82,7 @@ public final class ModelTest {
                 }
             }
         }
-        while (calls < 500 && wrong == 0) {
+        while (calls < CALLS && wrong == 0) {
             oneCall();
         }
     }
@@ -157,7 +159,7 @@ public final class ModelTest {
     }
 
     private void write() {
-        long key = random.nextInt(10) == 0 || x.told(1) == 0 ? key() : x.key(random.nextInt(x.told(1)));
+        long key = random.nextInt(10) == 0 || model.told(1) == 0 ? key() : model.key(random.nextInt(model.told(1)));
         int member = random.nextInt(8) - (random.nextInt(30) == 0 ? 1 : 0);
         long bits = bits();
         String rest = "(" + key + ", " + member + ", " + bits + ")";
@@ -186,12 +188,12 @@ public final class ModelTest {
         due("lost(0)", x.lost(0), model.lost(0));
         due("lost(1)", x.lost(1), model.lost(1));
         if (got == StateMoves.NONE) {
-            seen[x.refused(0)]++;
-            seen[7] += x.refused(3) > 0 ? 1 : 0;
+            seen[model.refused(0)]++;
+            seen[7] += model.refused(3) > 0 ? 1 : 0;
         } else if (got > 0) {
             seen[0]++;
-            seen[8] += x.lost(0) > 0 ? 1 : 0;
-            seen[9] += x.lost(1) > 0 ? 1 : 0;
+            seen[8] += model.lost(0) > 0 ? 1 : 0;
+            seen[9] += model.lost(1) > 0 ? 1 : 0;
         }
     }
 
