@@ -136,6 +136,18 @@ public final class ReadmeTest {
                 + "70 of 0 [ 102 ] [ -6 ] [ " + Float.floatToIntBits(3) + " ] [ 0 ] [ 5 -6 ]\n");
         DUE.is("lost(0)", x.lost(0), 0);
         DUE.is("lost(1)", x.lost(1), 1);
+        DUE.is("2.0 as an INT", carriedAsInt(2.0), 1);
+        DUE.is("2.5 as an INT", carriedAsInt(2.5), StateMoves.NONE);
+    }
+
+    private static int carriedAsInt(double number) {
+        StateMoves x = new StateMoves();
+        Due.type(x, 0, "a", "d:7");
+        Due.type(x, 1, "a", "d:4");
+        x.value(1, 0);
+        x.set(1, 0, Double.doubleToLongBits(number));
+        x.rules(0, 1);
+        return x.carry(1);
     }
 
     private static void everyCall(String text) {
